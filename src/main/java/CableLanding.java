@@ -21,7 +21,7 @@ public final class CableLanding {
         trial = new State();
         history = new History();
         slots = new Slot[SLOTS];
-        for (int i = 0; i < SLOTS; i++) {
+        for (int i = 0; i < slots.length; i++) {
             slots[i] = new Slot();
         }
         now.begin(1, 2, 200);
@@ -258,12 +258,11 @@ public final class CableLanding {
         return best;
     }
 
-    /*
+    /**
      * One forecast, with the longest extension, tells the answer for all: a shorter one makes no difference up to its
      * own last day, and after that day nothing is laid in the zone. So what is needed reaches to the day that ends it.
      */
     public int extension(int z) throws IndexOutOfBoundsException {
-        existingZone(now, z);
         trial.copyFrom(now);
         Zone zone = existingZone(trial, z);
         int last = zone.last;
@@ -279,15 +278,17 @@ public final class CableLanding {
 
     public int runScript(int n, long script) throws IllegalArgumentException {
         requireRange(n, 1, 3);
-        long bound = 1;
-        for (int i = 0; i < n; i++) {
-            bound = bound * Script.GROUP;
-        }
-        if (script < 0 || script >= bound) {
+        if (script < 0 || Script.withoutLast(script, n) > 0) {
             throw new IllegalArgumentException("the script has other digits");
         }
         trial.copyFrom(now);
-        return Script.firstFailure(trial, n, script);
+        for (int i = 0; i < n; i++) {
+            int group = (int) (Script.withoutLast(script, n - 1 - i) % Script.GROUP);
+            if (!Script.succeeds(trial, group)) {
+                return i;
+            }
+        }
+        return NONE;
     }
 
     public int simulate(long seed, int m) throws IllegalArgumentException {
@@ -374,12 +375,10 @@ public final class CableLanding {
             return units + (units * slack + 99) / 100;
         }
 
+        /** Without a loop: units and cable are whole, so the slack rounded up fits in just when it does unrounded. */
         int mostUnits(int limit, int cable) {
-            int units = limit;
-            while (units > 0 && cableFor(units) > cable) {
-                units--;
-            }
-            return units;
+            int cableOfHundred = 100 + slack;
+            return cableOfHundred > 0 ? Math.min(limit, 100 * cable / cableOfHundred) : 0;
         }
     }
 
@@ -429,9 +428,8 @@ public final class CableLanding {
         void sailOneDay() {
             if (where == SAILS_OUT || where == SAILS_HOME) {
                 daysLeft--;
-                if (daysLeft <= 0) {
+                if (daysLeft == 0) {
                     where = where == SAILS_OUT ? WAITS : IN_PORT;
-                    daysLeft = 0;
                 }
             }
         }
@@ -500,13 +498,13 @@ public final class CableLanding {
             return free;
         }
 
+        /** The day on which it begins is the first one of its days, and is worked on like the others. */
         boolean beginSplice(int waves) {
             for (int i = 0; i < rest.length && waves <= CALM_WAVES; i++) {
                 if (isFree(i)) {
                     needed = false;
                     atWork = i;
                     daysLeft = spliceDays;
-                    workOnSplice();
                     return true;
                 }
             }
@@ -645,10 +643,10 @@ public final class CableLanding {
         int reason;
 
         State() {
-            for (int z = 0; z < MOST_ZONES; z++) {
+            for (int z = 0; z < zones.length; z++) {
                 zones[z] = new Zone();
             }
-            for (int s = 0; s < MOST_SHIPS; s++) {
+            for (int s = 0; s < ships.length; s++) {
                 ships[s] = new Ship();
             }
         }
@@ -769,10 +767,6 @@ public final class CableLanding {
             if (ship.where == Ship.AT_FRONT) {
                 teams.leaveFront();
             }
-            sailHome(ship);
-        }
-
-        private void sailHome(Ship ship) {
             ship.sail(Ship.SAILS_HOME, isFinished() ? zoneCount : front + 1);
         }
 
@@ -870,12 +864,12 @@ public final class CableLanding {
             if (ship == null || zone == null) {
                 return NO_SHIP;
             }
+            if (teams.needed && !teams.beginSplice(weather.on(day))) {
+                return NO_SPLICE;
+            }
             if (teams.spliceGoesOn()) {
                 teams.workOnSplice();
                 return NOTHING_WRONG;
-            }
-            if (teams.needed) {
-                return teams.beginSplice(weather.on(day)) ? NOTHING_WRONG : NO_SPLICE;
             }
             if (day < zone.first) {
                 return BEFORE_PERMIT;
@@ -892,7 +886,7 @@ public final class CableLanding {
         private int lay(Ship ship, Zone zone) {
             int units = zone.mostUnits(Math.min(ship.speed, zone.length - laidHere), ship.aboard);
             if (units <= 0) {
-                sailHome(ship);
+                ship.sail(Ship.SAILS_HOME, front + 1);
                 return NO_CABLE;
             }
             int cable = zone.cableFor(units);
@@ -905,7 +899,7 @@ public final class CableLanding {
                 front++;
                 laidHere = 0;
                 if (isFinished()) {
-                    sailHome(ship);
+                    ship.sail(Ship.SAILS_HOME, zoneCount);
                 }
             }
             return NOTHING_WRONG;
@@ -938,7 +932,7 @@ public final class CableLanding {
         int count;
 
         History() {
-            for (int i = 0; i < MOST; i++) {
+            for (int i = 0; i < states.length; i++) {
                 states[i] = new State();
             }
         }
@@ -979,22 +973,16 @@ public final class CableLanding {
     private static final class Script {
         static final int GROUP = 100000;
 
-        static int firstFailure(State state, int n, long script) {
-            long divisor = 1;
-            for (int i = 1; i < n; i++) {
-                divisor = divisor * GROUP;
+        static long withoutLast(long script, int groups) {
+            long rest = script;
+            for (int i = 0; i < groups; i++) {
+                rest = rest / GROUP;
             }
-            for (int i = 0; i < n && divisor > 0; i++) {
-                if (!succeeds(state, (int) (script / divisor % GROUP))) {
-                    return i;
-                }
-                divisor = divisor / GROUP;
-            }
-            return NONE;
+            return rest;
         }
 
         /** A 0 that a command writes ahead of a number is asked for by the bound of that number. */
-        private static boolean succeeds(State state, int group) {
+        static boolean succeeds(State state, int group) {
             int second = group / 1000 % 10;
             int tail = group % 1000;
             switch (group / 10000) {
@@ -1002,7 +990,12 @@ public final class CableLanding {
                 case 2: return tail == 0 && sends(state, state.shipNumbered(second));
                 case 3: return tail == 0 && recalls(state, state.shipNumbered(second));
                 case 4: return tail < 100 && extendsPermit(state, state.zoneNumbered(second), tail);
-                case 5: return second == 0 && tail < 100 && passes(state, tail);
+                case 5:
+                    if (second != 0 || tail < 1 || tail > MOST_DAYS_AT_ONCE) {
+                        return false;
+                    }
+                    state.passDays(tail);
+                    return true;
                 case 6: return second == 0 && buys(state, tail);
                 case 7: return tail < 100 && state.front == second && state.laidHere == tail;
                 case 8: return tail < 10 && isAt(state.shipNumbered(second), tail);
@@ -1041,11 +1034,6 @@ public final class CableLanding {
             }
             state.prolong(zone, days);
             return true;
-        }
-
-        private static boolean passes(State state, int days) {
-            state.passDays(days);
-            return days >= 1;
         }
 
         private static boolean buys(State state, int units) {

@@ -42,6 +42,14 @@ public final class ForecastTest {
         x.take(1, 30);
         x.send(0);
         x.send(1);
+        whatComes(x);
+        x.pass(9);
+        Check.isTrue("something is laid", x.account(1) > 0);
+        Check.isTrue("somebody has waited", x.account(5) > 0);
+        whatComes(x);
+    }
+
+    private static void whatComes(CableLanding x) {
         for (int m = 1; m <= 40; m++) {
             int[] told = new int[5];
             for (int what = 0; what < 5; what++) {
@@ -120,8 +128,15 @@ public final class ForecastTest {
                 Check.loaded("C110030z9900990s04005910s04005910w0").bestShip(), 0);
         Check.same("more is laid by the faster one, ahead of costs",
                 Check.loaded("C110999z9900400s99902101s99903999w0").bestShip(), 1);
-        Check.same("only 60 days count",
-                Check.loaded("C110999z9900990s99901101s06201102w0").bestShip(), 0);
+        // Both lay a unit a day from day 0 on, until the unit 60 on day 59 for one, the unit 61 on day 60 for the other.
+        Check.same("only 60 days count, and the costs in them",
+                Check.loaded("C110999z9900990s06001901s99901901w0").bestShip(), 0);
+        Check.same("all 60 days count",
+                Check.loaded("C110999z9900990s05901901s99901901w0").bestShip(), 1);
+        // Full, the first one lays 12 units for 13 days at sea; with more than full, it would lay all 20.
+        CableLanding x = Check.loaded("C110999z2000990s01201901s01401901w0");
+        x.take(0, 8);
+        Check.same("no ship gets more than its room", x.bestShip(), 1);
         Check.same("nothing is to be laid, the smaller costs",
                 Check.loaded("C110000z9900990s05005920s04005910w0").bestShip(), 1);
     }

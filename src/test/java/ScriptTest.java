@@ -101,6 +101,7 @@ public final class ScriptTest {
         script(x, 1, 41099, NONE);
         script(x, 1, 40000, 0);
         script(x, 1, 42001, 0);
+        script(x, 1, 40100, 0);
         script(x, 1, 40101, 0);
         for (int i = 0; i < 9; i++) {
             x.extend(0, 99);
@@ -191,7 +192,8 @@ public final class ScriptTest {
         Check.noRange("m = -1", () -> x.simulate(5, -1));
         Check.noRange("m = 100", () -> x.simulate(0, 100));
         Check.noRange("m of the smallest int", () -> x.simulate(0, Integer.MIN_VALUE));
-        long[] seeds = {0, 1, -1, 42, 6364136223846793005L, Long.MIN_VALUE, Long.MAX_VALUE};
+        long[] seeds = {0, 1, -1, 42, 6364136223846793005L, Long.MIN_VALUE, Long.MAX_VALUE, seedFor(0), seedFor(-1)};
+        Check.same("x in the first round", seedFor(0) * 6364136223846793005L + 1442695040888963407L, 0);
         for (long seed : seeds) {
             for (int m = 1; m <= 99; m += 7) {
                 Check.same("simulate " + seed + " " + m, x.simulate(seed, m), played(new CableLanding(), seed, m));
@@ -200,18 +202,35 @@ public final class ScriptTest {
         Check.unchanged("simulate", x, before);
     }
 
+    /** The seed with this x in the first round: 0 has the smallest r, -1 the greatest one. */
+    private static long seedFor(long x) {
+        long inverse = 1;
+        for (int i = 0; i < 6; i++) {
+            inverse = inverse * (2 - 6364136223846793005L * inverse);
+        }
+        return (x - 1442695040888963407L) * inverse;
+    }
+
     private static void simulateShips() {
-        String text = "C210900z3000990z2002993z4000999s06005410s02020930s10003802w31425096";
-        for (long seed = -20; seed < 20; seed++) {
+        String text = "C210900z9900990z9002993z4000999s06005410s02020930s10003802w31425096";
+        for (long seed = -40; seed < 40; seed++) {
+            int m = 10 + (int) (seed & 31);
             CableLanding x = Check.loaded(text);
             CableLanding y = Check.loaded(text);
-            x.pass(2);
-            y.pass(2);
+            firstDays(x);
+            firstDays(y);
             String before = Check.all(x);
-            Check.same("simulate " + seed, x.simulate(seed, 70), played(y, seed, 70));
+            Check.same("simulate " + seed + " " + m, x.simulate(seed, m), played(y, seed, m));
             Check.unchanged("simulate", x, before);
-            Check.same("simulate is no action", x.undo(), 0);
+            Check.same("simulate is no action", x.undo(), 2);
         }
+    }
+
+    private static void firstDays(CableLanding x) {
+        x.take(0, 12);
+        x.send(0);
+        x.pass(2);
+        Check.same("laid before", x.account(1), 10);
     }
 
     /** The rounds, played with the actions themselves. */

@@ -15,6 +15,7 @@ public final class TextTest {
         errorPositionOfWaves();
         load();
         loadForgets();
+        loadBehindAnotherRoute();
         loadRefuses();
         Check.end();
     }
@@ -93,6 +94,8 @@ public final class TextTest {
         position("C13", 3);
         position("C11/", 3);
         position("C11:", 3);
+        position("C110:", 4);
+        position("C110/", 4);
         position("C1199", 5);
         position("C11999x", 6);
         position("C119999", 7);
@@ -186,6 +189,56 @@ public final class TextTest {
         Check.notNow("undo behind load", x::undo);
         Check.notNow("restore(0) behind load", () -> x.restore(0));
         Check.notNow("restore(1) behind load", () -> x.restore(1));
+    }
+
+    /** Forecasts, too, must leave nothing behind that a later route would show. */
+    private static void loadBehindAnotherRoute() {
+        CableLanding x = new CableLanding();
+        String fresh = Check.all(Check.loaded(SHORTEST));
+        Check.write(x, "C330900z0600999z9000999s05005910s06004720s01001101s99920999w0112");
+        x.load();
+        for (int s = 0; s < 4; s++) {
+            x.take(s, 10);
+            x.send(s);
+        }
+        x.buy(9);
+        x.extend(0, 9);
+        x.pass(2);
+        Check.same("the front is in zone 1", x.about(6), 1);
+        x.recall(0);
+        x.pass(1);
+        Check.same("a splice goes on", x.about(10), 2);
+        Check.same("a ship sails", x.ship(0, 6), 1);
+        x.ahead(0, 0);
+        Check.write(x, SHORTEST);
+        Check.same("load of a smaller route", x.load(), 1);
+        Check.isTrue("nothing of the former one is left", Check.all(x).equals(fresh));
+        CableLanding y = Check.loaded("C210900z0600999z9000999s05005910s06004720s05005710w0452");
+        for (int s = 0; s < 3; s++) {
+            y.take(s, 30);
+            y.send(s);
+        }
+        y.pass(1);
+        y.recall(0);
+        y.pass(1);
+        Check.same("a splice is needed", y.about(10), 1);
+        y.ahead(0, 0);
+        Check.same("load of the text that is there", y.load(), 2);
+        Check.same("no splice is needed", y.about(10), 0);
+        y.take(0, 30);
+        y.send(0);
+        y.pass(1);
+        y.recall(0);
+        y.setWaves(2, 0);
+        y.pass(1);
+        y.send(0);
+        y.pass(1);
+        Check.same("a splice is done", y.about(12), 1);
+        Check.same("a team rests", y.about(13), 1);
+        y.ahead(0, 0);
+        y.load();
+        Check.same("no splice is done", y.about(12), 0);
+        Check.same("no team rests", y.about(13), 2);
     }
 
     private static void loadRefuses() {
