@@ -6,15 +6,29 @@ final class Check {
 
     private static int made = 0;
     private static int wrong = 0;
+    private static String under = "";
 
     private Check() {
+    }
+
+    static int made() {
+        return made;
+    }
+
+    /** The words that stand ahead of what is told from now on. */
+    static void under(String words) {
+        under = words.isEmpty() ? "" : words + ": ";
+    }
+
+    private static void tell(String what) {
+        wrong++;
+        System.out.println(under + what);
     }
 
     static void same(String what, long got, long due) {
         made++;
         if (got != due) {
-            wrong++;
-            System.out.println(what + " answered " + got + ", due is " + due);
+            tell(what + " answered " + got + ", due is " + due);
         }
     }
 
@@ -27,13 +41,20 @@ final class Check {
         made++;
         try {
             long got = call.run();
-            wrong++;
-            System.out.println(what + " answered " + got + ", due is " + kind.getSimpleName());
+            tell(what + " answered " + got + ", due is " + kind.getSimpleName());
         } catch (RuntimeException e) {
             if (e.getClass() != kind) {
-                wrong++;
-                System.out.println(what + " threw " + e + ", due is " + kind.getSimpleName());
+                tell(what + " threw " + e + ", due is " + kind.getSimpleName());
             }
+        }
+    }
+
+    static void passes(String what, Call call) {
+        made++;
+        try {
+            call.run();
+        } catch (RuntimeException e) {
+            tell(what + " threw " + e);
         }
     }
 
