@@ -1,4 +1,3 @@
-import java.util.ArrayList;
 import java.util.List;
 
 /** Promises 11 to 18: take, send, recall, extend, buy, setWaves, pass, undo. */
@@ -195,18 +194,18 @@ public final class ActionsTest {
     }
 
     private static void undoOfEachAction() {
-        CableLanding x = Check.loaded(TWO_ZONES);
-        List<Check.Call> actions = List.of(() -> x.take(0, 15), () -> x.send(0), () -> x.pass(3), () -> x.recall(0),
-                () -> x.extend(1, 4), () -> x.buy(9), () -> x.setWaves(1, 8), () -> x.take(1, 30), () -> x.send(1),
-                () -> x.pass(2), () -> x.pass(1), () -> x.recall(1), () -> x.pass(1));
-        List<String> before = new ArrayList<>();
-        for (Check.Call action : actions) {
-            before.add(Check.all(x));
-            action.run();
-        }
-        for (int i = actions.size() - 1; i >= 0; i--) {
+        List<Story.Call> actions = List.of(x -> x.take(0, 15), x -> x.send(0), x -> x.pass(3), x -> x.recall(0),
+                x -> x.extend(1, 4), x -> x.buy(9), x -> x.setWaves(1, 8), x -> x.take(1, 30), x -> x.send(1),
+                x -> x.pass(2), x -> x.pass(1), x -> x.recall(1), x -> x.pass(1));
+        for (int i = 0; i < actions.size(); i++) {
+            CableLanding x = Check.loaded(TWO_ZONES);
+            for (Story.Call action : actions.subList(0, i)) {
+                action.run(x);
+            }
+            String before = Check.all(x);
+            actions.get(i).run(x);
             Check.same("undo", x.undo(), i);
-            Check.unchanged("action " + i + " with its undo", x, before.get(i));
+            Check.unchanged("action " + i + " with its undo", x, before);
         }
     }
 

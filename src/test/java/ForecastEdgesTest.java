@@ -513,6 +513,8 @@ public final class ForecastEdgesTest {
         Check.same("just what is needed", x.extension(0), 0);
         x.pass(1);
         Check.same("the zone is done", x.extension(0), 0);
+        x.pass(99);
+        Check.same("done, and the permit long over", x.extension(0), 0);
     }
 
     private static CableLanding lastDay(int last, int day) {

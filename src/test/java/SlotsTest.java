@@ -48,7 +48,7 @@ public final class SlotsTest {
         Check.same("the text stays", x.clearText(), 1);
     }
 
-    private static void restoreInTheMiddle() {
+    private static CableLanding inTheMiddle() {
         CableLanding x = Check.loaded("C220500z1200994z2003709s05005410s06009720w3245");
         x.take(0, 20);
         x.take(1, 60);
@@ -57,8 +57,13 @@ public final class SlotsTest {
         x.send(1);
         x.pass(3);
         x.recall(0);
-        x.pass(1);
-        for (int day = 0; day < 20; day++) {
+        return x;
+    }
+
+    private static void restoreInTheMiddle() {
+        for (int day = 1; day <= 20; day++) {
+            CableLanding x = inTheMiddle();
+            x.pass(day);
             x.save(day % 2);
             String before = Check.all(x);
             x.setWaves(day % 4, day % 10);
@@ -66,7 +71,6 @@ public final class SlotsTest {
             x.pass(3);
             x.restore(day % 2);
             Check.unchanged("save and restore", x, before);
-            x.pass(1);
         }
     }
 }

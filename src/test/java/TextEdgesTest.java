@@ -333,14 +333,34 @@ public final class TextEdgesTest {
         }
     }
 
+    /** Ship 1 comes to the front on day 3 and lays behind the splice; what is asked of the days ahead leaves no trace. */
+    private static CableLanding behindOtherShip(int waves, int days) {
+        CableLanding x = busy("C220300z0500992s06005410w324");
+        x.recall(0);
+        x.take(1, 50);
+        x.send(1);
+        x.extend(1, 9);
+        x.buy(9);
+        x.setWaves(0, waves);
+        x.pass(days);
+        x.ahead(0, 0);
+        return x;
+    }
+
     private static void loadsIntoUse() {
         CableLanding fresh = new CableLanding();
         Check.write(fresh, "C220300z0500992s06005410w324");
         fresh.load();
-        CableLanding used = busy("C220300z0500992s06005410w324");
-        used.load();
-        Check.isTrue("as on a new object", Story.of(used).equals(Story.of(fresh)));
+        String due = Story.of(fresh);
+        int[][] stages = {{3, 1, 0}, {4, 2, 1}, {3, 2, 2}, {3, 3, 0}, {3, 5, 0}};
+        for (int[] stage : stages) {
+            CableLanding x = behindOtherShip(stage[0], stage[1]);
+            Check.same("the splice of the former route", x.about(10), stage[2]);
+            x.load();
+            Check.isTrue("as on a new object, behind " + stage[1] + " days", Story.of(x).equals(due));
+        }
         CableLanding x = busy("C220300z0500992s06005410w324");
+        x.ahead(0, 0);
         x.load();
         for (int what = 4; what <= 7; what++) {
             Check.same("ship 0 " + what, x.ship(0, what), 0);
@@ -351,6 +371,7 @@ public final class TextEdgesTest {
         for (int what : new int[] {5, 6, 7, 9, 10, 11, 12}) {
             Check.same("about " + what, x.about(what), 0);
         }
+        Check.same("free teams", x.about(13), 2);
         Check.noZone("no ship of the former route", () -> x.ship(1, 0));
         Check.noZone("no zone of the former route", () -> x.zone(1, 0));
     }

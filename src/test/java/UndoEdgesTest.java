@@ -115,6 +115,23 @@ public final class UndoEdgesTest {
         Check.same("the team rests", x.about(13), 1);
         x.undo();
         Check.isTrue("the splice that was given up goes on", Story.view(x).equals(before));
+        CableLanding y = needingSplice();
+        y.recall(1);
+        y.undo();
+        Check.same("the splice is needed again", y.about(10), 1);
+        y.undo();
+        Check.same("it was not needed the day before", y.about(10), 0);
+    }
+
+    /** Ship 1 has come to the front on day 2, in waves that are too high for the splice. */
+    private static CableLanding needingSplice() {
+        CableLanding x = busy();
+        x.recall(0);
+        x.take(1, 50);
+        x.send(1);
+        x.pass(1);
+        Check.same("a splice is needed", x.about(10), 1);
+        return x;
     }
 
     private static void textAndSlotsAreNoState() {
@@ -447,6 +464,12 @@ public final class UndoEdgesTest {
         Check.isTrue("restore brings it back", Story.view(x).equals(before));
         x.restore(1);
         Check.same("the other slot has its own", x.about(5), 0);
+        CableLanding y = needingSplice();
+        y.save(0);
+        y.recall(1);
+        y.restore(0);
+        Check.same("the splice is needed again", y.about(10), 1);
+        Check.same("it is done first", y.ahead(2, 0), 0);
     }
 
     private static void daysOfSlots() {

@@ -87,23 +87,7 @@ final class Check {
 
     /** What can be asked for without changing anything, in one row; forecasts, too, as they show how teams rest. */
     static String all(CableLanding x) {
-        StringBuilder row = new StringBuilder();
-        for (int what = 0; what <= 13; what++) {
-            row.append(x.about(what)).append(' ');
-        }
-        for (int what = 0; what <= 7; what++) {
-            row.append(x.account(what)).append(' ');
-        }
-        for (int z = 0; z < x.about(0); z++) {
-            for (int what = 0; what <= 4; what++) {
-                row.append(x.zone(z, what)).append(' ');
-            }
-        }
-        for (int s = 0; s < x.about(1); s++) {
-            for (int what = 0; what <= 7; what++) {
-                row.append(x.ship(s, what)).append(' ');
-            }
-        }
+        StringBuilder row = Story.numbers(x);
         for (int day = 0; day < 60; day++) {
             row.append(x.waves(day));
         }

@@ -55,6 +55,18 @@ final class Story {
 
     /** What stands now, and how it goes on; in few calls, for an object with two zones and two ships. */
     static String view(CableLanding x) {
+        StringBuilder row = numbers(x);
+        for (int day = 0; day < 4; day++) {
+            row.append(x.waves(day)).append(' ');
+        }
+        for (int what = 0; what <= 4; what++) {
+            row.append(x.ahead(9, what)).append(' ');
+        }
+        return row.toString();
+    }
+
+    /** What about, account, zone and ship tell. */
+    static StringBuilder numbers(CableLanding x) {
         StringBuilder row = new StringBuilder();
         for (int what = 0; what <= 13; what++) {
             row.append(x.about(what)).append(' ');
@@ -72,13 +84,7 @@ final class Story {
                 row.append(x.ship(s, what)).append(' ');
             }
         }
-        for (int day = 0; day < 4; day++) {
-            row.append(x.waves(day)).append(' ');
-        }
-        for (int what = 0; what <= 4; what++) {
-            row.append(x.ahead(9, what)).append(' ');
-        }
-        return row.toString();
+        return row;
     }
 
     /** What stands now, what is remembered, what the slots and the text hold. The object is used up by it. */
